@@ -8,6 +8,7 @@ public final class ColourCharts {
 
     private static final int PARTS = 3;
     private static final int GREEN = 1;
+    private static final int[] PART_WEIGHTS = {2, 4, 3};
     private static final int GREATEST_PART = 255;
     private static final int PATCHES = 16;
     private static final int GREATEST_SIDE = 4;
@@ -280,14 +281,12 @@ public final class ColourCharts {
         if (!targets.told[patch]) {
             return NONE;
         }
-        int red = missOf(patch, 0);
-        int green = missOf(patch, 1);
-        int blue = missOf(patch, 2);
-        return 2 * red * red + 4 * green * green + 3 * blue * blue;
-    }
-
-    private int missOf(int patch, int part) {
-        return lines.partFrom(part, partOfPatch(patch, part)) - targets.partOf(patch, part);
+        int sum = 0;
+        for (int part = 0; part < PARTS; part++) {
+            int miss = lines.partFrom(part, partOfPatch(patch, part)) - targets.partOf(patch, part);
+            sum += PART_WEIGHTS[part] * miss * miss;
+        }
+        return sum;
     }
 
     /** With no targets in the grid any more nothing differs, so it is 0 then. */
@@ -409,7 +408,8 @@ public final class ColourCharts {
             if (light == 0) {
                 return 0;
             }
-            return (int) Math.min(GREATEST_PART, nearest(parts[cell * PARTS + part] * EVEN_LIGHT, light));
+            int above = parts[cell * PARTS + part] * EVEN_LIGHT;
+            return Math.min(GREATEST_PART, (2 * above + light) / (2 * light));
         }
 
         boolean isDark(int x, int y) {

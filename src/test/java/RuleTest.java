@@ -145,6 +145,10 @@ public final class RuleTest {
         c = noisyPatch(250);
         c.pixel(3, 4, 1, 254);
         rejects(c, "n>5", true);
+        c = noisyPatch(255);
+        rejects(c, "n>0", false);
+        c.pixel(1, 1, 1, 56);
+        CHECK.due("patch 0 has the greatest", c.reject(), 0);
     }
 
     private static void rejectByMissing() {
@@ -157,8 +161,9 @@ public final class RuleTest {
         rejects(c, "m<2", false);
         rejects(c, "m>2", false);
         rejects(c, "m<3", true);
+        c.target(4, 1, 1, 1);
         c.target(15, 1, 1, 1);
-        CHECK.due("a target beyond the grid", c.reject(), 2);
+        CHECK.due("targets beyond the grid", c.reject(), 2);
     }
 
     private static void firstOfSeveral() {
