@@ -6,13 +6,27 @@ final class Check {
 
     private int calls = 0;
     private int wrong = 0;
+    private String about = "";
+
+    /** What is printed before each wrong answer from now on. */
+    void begin(String newAbout) {
+        about = newAbout;
+    }
+
+    int made() {
+        return calls;
+    }
 
     void due(String call, long got, long want) {
         calls++;
         if (got != want) {
-            wrong++;
-            System.out.println(call + " answered " + got + ", due is " + want);
+            wrong(call + " answered " + got + ", due is " + want);
         }
+    }
+
+    void wrong(String what) {
+        wrong++;
+        System.out.println(about + what);
     }
 
     void due(String call, boolean got, boolean want) {
@@ -22,8 +36,7 @@ final class Check {
     void dueText(String call, String got, String want) {
         calls++;
         if (!got.equals(want)) {
-            wrong++;
-            System.out.println(call + " answered " + got + ", due is " + want);
+            wrong(call + " answered " + got + ", due is " + want);
         }
     }
 

@@ -15,11 +15,6 @@ public final class FitTest {
         CHECK.end("FitTest");
     }
 
-    private static long doTarget(ColourCharts c, int patch, int red, int green, int blue) {
-        c.target(patch, red, green, blue);
-        return 0;
-    }
-
     private static void line(ColourCharts c, int part, long a, long b, long d) {
         CHECK.due("a of part " + part, c.line(part, 0), a);
         CHECK.due("b of part " + part, c.line(part, 1), b);
@@ -36,13 +31,13 @@ public final class FitTest {
         c.target(3, -1, 0, 0);
         CHECK.due("targets, none dropped", c.count(2), 2);
         for (int no : new int[] {-1, 16, Integer.MIN_VALUE, Integer.MAX_VALUE}) {
-            CHECK.noCell("target " + no, () -> doTarget(c, no, 1, 1, 1));
-            CHECK.noCell("target " + no + " with a wrong part", () -> doTarget(c, no, 256, 1, 1));
-            CHECK.noCell("no target " + no, () -> doTarget(c, no, -1, 1, 1));
+            CHECK.noCell("target " + no, () -> Scenes.target(c, no, 1, 1, 1));
+            CHECK.noCell("target " + no + " with a wrong part", () -> Scenes.target(c, no, 256, 1, 1));
+            CHECK.noCell("no target " + no, () -> Scenes.target(c, no, -1, 1, 1));
         }
         int[][] wrong = {{256, 0, 0}, {0, 256, 0}, {0, -1, 0}, {0, 0, 256}, {0, 0, -1}, {255, Integer.MIN_VALUE, 0}};
         for (int[] w : wrong) {
-            CHECK.noArgument("target of wrong parts", () -> doTarget(c, 1, w[0], w[1], w[2]));
+            CHECK.noArgument("target of wrong parts", () -> Scenes.target(c, 1, w[0], w[1], w[2]));
         }
         CHECK.due("targets after refusals", c.count(2), 2);
         c.target(0, Integer.MIN_VALUE, 999, -7);

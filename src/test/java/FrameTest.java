@@ -60,11 +60,11 @@ public final class FrameTest {
     }
 
     private static void brokenBorder() {
-        ColourCharts c = new ColourCharts(12, 12);
-        Scenes.frame(c, 2, 2, 8, 9);
         int found = 0;
         for (int y = 0; y < 12; y++) {
             for (int x = 0; x < 12; x++) {
+                ColourCharts c = new ColourCharts(12, 12);
+                Scenes.frame(c, 2, 2, 8, 9);
                 boolean within = x >= 2 && x <= 8 && y >= 2 && y <= 9;
                 boolean border = within && (x == 2 || x == 8 || y == 2 || y == 9);
                 Scenes.grey(c, x, y, border ? 255 : 0);

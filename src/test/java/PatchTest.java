@@ -13,11 +13,6 @@ public final class PatchTest {
         CHECK.end("PatchTest");
     }
 
-    private static long doGrid(ColourCharts c, int columns, int rows) {
-        c.grid(columns, rows);
-        return 0;
-    }
-
     private static void wrongGrids() {
         ColourCharts c = new ColourCharts(9, 9);
         Scenes.frame(c, 0, 0, 8, 8);
@@ -25,8 +20,8 @@ public final class PatchTest {
         c.grid(3, 1);
         int[] wrong = {0, 5, -1, Integer.MIN_VALUE, Integer.MAX_VALUE};
         for (int w : wrong) {
-            CHECK.noArgument("grid columns " + w, () -> doGrid(c, w, 2));
-            CHECK.noArgument("grid rows " + w, () -> doGrid(c, 2, w));
+            CHECK.noArgument("grid columns " + w, () -> Scenes.grid(c, w, 2));
+            CHECK.noArgument("grid rows " + w, () -> Scenes.grid(c, 2, w));
         }
         CHECK.due("the grid after refusals has patch 2", c.read(2, 0), 255);
         CHECK.noCell("and no patch 3", () -> c.read(3, 0));
@@ -177,19 +172,5 @@ public final class PatchTest {
         c.light(1, 1, 0);
         noise(c, 0, 195075, 16);
         noise(c, 1, 0, 1);
-        largestNoise();
-    }
-
-    private static void largestNoise() {
-        ColourCharts c = new ColourCharts(30, 30);
-        Scenes.frame(c, 0, 0, 29, 29);
-        c.find();
-        c.grid(1, 1);
-        for (int y = 1; y < 29; y++) {
-            for (int x = 1; x < 29; x++) {
-                c.pixel(x, y, 1, x < 15 ? 0 : 255);
-            }
-        }
-        noise(c, 0, 65025, 4);
     }
 }

@@ -86,14 +86,11 @@ public final class PictureTest {
     }
 
     private static void lit() {
-        ColourCharts c = new ColourCharts(6, 6);
         for (int light = 0; light <= 255; light++) {
-            c.light(1, 2, light);
-            for (int v = 0; v <= 255; v++) {
-                c.pixel(1, 2, v % 3, v);
-                CHECK.due("lit " + v + " by " + light, c.lit(1, 2, v % 3), dueLit(v, light));
-            }
+            litBy(light, 0, 127);
+            litBy(light, 128, 255);
         }
+        ColourCharts c = new ColourCharts(6, 6);
         CHECK.noCell("lit part -1", () -> c.lit(0, 0, -1));
         CHECK.noCell("lit part 3", () -> c.lit(0, 0, 3));
         c.light(1, 2, 240);
@@ -101,6 +98,15 @@ public final class PictureTest {
         CHECK.due("2.5 goes up", c.lit(1, 2, 0), 3);
         c.light(1, 2, 0);
         CHECK.due("no light", c.lit(1, 2, 0), 0);
+    }
+
+    private static void litBy(int light, int first, int last) {
+        ColourCharts c = new ColourCharts(6, 6);
+        c.light(1, 2, light);
+        for (int v = first; v <= last; v++) {
+            c.pixel(1, 2, v % 3, v);
+            CHECK.due("lit " + v + " by " + light, c.lit(1, 2, v % 3), dueLit(v, light));
+        }
     }
 
     /** The greatest w whose distance to the quotient is least, found by trying all. */

@@ -9,9 +9,14 @@ import java.util.Random;
  * fault shows again.
  */
 public final class RandomRunsTest {
-    private static final int RUNS = 1500;
+    private static final int RUNS = 2500;
     private static final int CALLS = 512;
     private static final Check CHECK = new Check();
+    /** A step is at most a rule's text and the rule. */
+    private static final int MOST_AT_ONCE = 10;
+    /** Cells within the frame are painted at first only while so many calls are left. */
+    private static final int LEFT = 300;
+    private static int calls = 0;
 
     public static void main(String[] args) {
         for (int seed = 0; seed < RUNS; seed++) {
@@ -26,11 +31,12 @@ public final class RandomRunsTest {
         int height = seed % 3 == 0 ? random.nextInt(40) - 3 : 6 + random.nextInt(4);
         ColourCharts real = new ColourCharts(width, height);
         Model model = new Model(width, height);
+        calls = 0;
         if (seed % 5 != 0) {
             paintFrame(real, model, random);
         }
-        for (int i = 0; i < CALLS; i++) {
-            oneCall("seed " + seed + " call " + i + " ", real, model, random);
+        while (calls < CALLS - MOST_AT_ONCE) {
+            oneCall("seed " + seed + " call " + calls + " ", real, model, random);
         }
     }
 
@@ -41,13 +47,24 @@ public final class RandomRunsTest {
         int bottom = top + 5 + random.nextInt(model.height - top - 5);
         for (int y = top; y <= bottom; y++) {
             for (int x = left; x <= right; x++) {
-                boolean border = x == left || x == right || y == top || y == bottom;
-                for (int part = 0; part < 3; part++) {
-                    int v = border ? random.nextInt(41) : random.nextInt(256);
-                    real.pixel(x, y, part, v);
-                    model.parts[x][y][part] = v;
+                if (x == left || x == right || y == top || y == bottom) {
+                    paint(real, model, random, x, y, 41);
                 }
             }
+        }
+        for (int y = top + 1; y < bottom; y++) {
+            for (int x = left + 1; x < right && calls < CALLS - LEFT; x++) {
+                paint(real, model, random, x, y, 256);
+            }
+        }
+    }
+
+    private static void paint(ColourCharts real, Model model, Random random, int x, int y, int bound) {
+        for (int part = 0; part < 3; part++) {
+            int v = random.nextInt(bound);
+            real.pixel(x, y, part, v);
+            model.parts[x][y][part] = v;
+            calls++;
         }
     }
 
@@ -106,7 +123,7 @@ public final class RandomRunsTest {
             case 5: {
                 int columns = r.nextInt(20) == 0 ? WILD[r.nextInt(8)] : r.nextInt(6);
                 int rows = r.nextInt(20) == 0 ? WILD[r.nextInt(8)] : r.nextInt(6);
-                same(at + "grid", () -> doGrid(real, columns, rows), () -> model.grid(columns, rows));
+                same(at + "grid", () -> Scenes.grid(real, columns, rows), () -> model.grid(columns, rows));
                 return;
             }
             case 6: {
@@ -124,7 +141,7 @@ public final class RandomRunsTest {
             case 10:
             case 11: {
                 int red = r.nextInt(12) == 0 ? -1 : some(r, 256);
-                same(at + "target", () -> doTarget(real, patch, red, v, w), () -> model.target(patch, red, v, w));
+                same(at + "target", () -> Scenes.target(real, patch, red, v, w), () -> model.target(patch, red, v, w));
                 return;
             }
             case 12: {
@@ -201,17 +218,8 @@ public final class RandomRunsTest {
         return r.nextInt(r.nextBoolean() ? 20 : 300000);
     }
 
-    private static long doGrid(ColourCharts c, int columns, int rows) {
-        c.grid(columns, rows);
-        return 0;
-    }
-
-    private static long doTarget(ColourCharts c, int patch, int red, int green, int blue) {
-        c.target(patch, red, green, blue);
-        return 0;
-    }
-
     private static void same(String call, Check.Call real, Check.Call model) {
+        calls++;
         CHECK.dueText(call, Check.told(real), Check.told(model));
     }
 

@@ -38,6 +38,18 @@ final class Scenes {
         paint(c, 1 + patch % 4, 1 + patch / 4, red, green, blue);
     }
 
+    /** As a call with an answer, so that a check can take it. */
+    static long grid(ColourCharts c, int columns, int rows) {
+        c.grid(columns, rows);
+        return 0;
+    }
+
+    /** As a call with an answer, so that a check can take it. */
+    static long target(ColourCharts c, int patch, int red, int green, int blue) {
+        c.target(patch, red, green, blue);
+        return 0;
+    }
+
     static void text(ColourCharts c, String text) {
         for (int i = 0; i < text.length(); i++) {
             c.unit(text.charAt(i));
