@@ -423,6 +423,7 @@ public final class FitEdgesTest {
     private static void heldTwoX(Check check) {
         lineIs(check, held(0, 50, 10, 50, 255, 51, 13), 3, -140, 1);
         lineIs(check, held(2, 50, 10, 50, 11, 51, 13), 5, -229, 2);
+        lineIs(check, held(0, 50, 10, 49, 8, 51, 12), 2, -90, 1);
     }
 
     private static void fallingLines(Check check) {
@@ -457,6 +458,15 @@ public final class FitEdgesTest {
     private static void wideLine(Check check) {
         lineIs(check, fitted(0, 0, 255, 1), 1, 0, 255);
         lineIs(check, fitted(0, 0, 1, 0, 255, 1), 509, -254, 129542);
+        int[] x = new int[16];
+        int[] y = new int[16];
+        for (int i = 8; i < 16; i++) {
+            x[i] = i < 15 ? 255 : 254;
+            y[i] = 255;
+        }
+        ColourCharts c = points(x, y);
+        c.fit();
+        lineIs(check, c, 277304, 119, 277169);
     }
 
     private static void heldLine(Check check) {

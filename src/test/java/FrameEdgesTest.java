@@ -21,6 +21,7 @@ public final class FrameEdgesTest {
         edges.edge(5, box, "all cells dark", FrameEdgesTest::allDark);
         edges.edge(5, box, "one dark cell beyond the frame", FrameEdgesTest::darkBeyond);
         edges.edge(5, box, "dark cells within the frame", FrameEdgesTest::darkWithin);
+        edges.edge(5, box, "a lesser box than before", FrameEdgesTest::lesserBox);
     }
 
     private static void find(Edges edges) {
@@ -131,6 +132,21 @@ public final class FrameEdgesTest {
         boxIs(check, c, 1, 1, 7, 8);
     }
 
+    private static void lesserBox(Check check) {
+        ColourCharts c = new ColourCharts(8, 8);
+        Scenes.frame(c, 0, 0, 7, 7);
+        check.due("find", c.find(), true);
+        Scenes.frame(c, 1, 1, 6, 6);
+        for (int i = 0; i < 8; i++) {
+            c.pixel(i, 0, 0, 41);
+            c.pixel(i, 7, 1, 41);
+            c.pixel(0, i, 2, 41);
+            c.pixel(7, i, 0, 41);
+        }
+        check.due("find again", c.find(), true);
+        boxIs(check, c, 1, 1, 6, 6);
+    }
+
     private static void fiveWide(Check check) {
         check.due("find, 5 by 6", framed(1, 1, 5, 6).find(), false);
         check.due("find, 5 by 30", framed(0, 0, 4, 29).find(), false);
@@ -180,9 +196,9 @@ public final class FrameEdgesTest {
         Scenes.grey(c, 0, 0, 0);
         Scenes.grey(c, 8, 9, 0);
         boxIs(check, c, 1, 1, 6, 7);
-        c.pixel(2, 2, 0, 1);
+        c.pixel(2, 2, 0, 9);
         c.grid(4, 4);
-        check.due("patches are read within it", c.read(0, 0), 128);
+        check.due("patches are read within it", c.read(0, 0), 132);
     }
 
     private static void foundElsewhere(Check check) {

@@ -16,6 +16,7 @@ public final class PatchEdgesTest {
         edges.edge(7, "(2 and 2 at first)", "four patches", PatchEdgesTest::firstGrid);
         edges.edge(7, "A GRID of COLUMNS 1 .. 4 and ROWS 1 .. 4", "the least", PatchEdgesTest::leastGrid);
         edges.edge(7, "A GRID of COLUMNS 1 .. 4 and ROWS 1 .. 4", "the greatest", PatchEdgesTest::greatestGrids);
+        edges.edge(7, "The grid.", "before a frame is found, and after", PatchEdgesTest::gridBeforeFrame);
         edges.edge(7, "IllegalArgumentException: columns or rows", "columns", PatchEdgesTest::wrongColumns);
         edges.edge(7, "IllegalArgumentException: columns or rows", "rows", PatchEdgesTest::wrongRows);
         edges.edge(7, "with i * COLUMNS / n (rounded down) = c", "columns not alike", PatchEdgesTest::columnShares);
@@ -107,6 +108,20 @@ public final class PatchEdgesTest {
         patchesAre(check, c, 12);
     }
 
+    private static void gridBeforeFrame(Check check) {
+        ColourCharts c = new ColourCharts(6, 6);
+        c.grid(3, 1);
+        c.turn(1);
+        check.noState("patch 2", () -> c.read(2, 0));
+        check.noCell("patch 3", () -> c.read(3, 0));
+        Scenes.frame(c, 0, 0, 5, 5);
+        c.find();
+        patchesAre(check, c, 3);
+        c.grid(1, 2);
+        c.find();
+        patchesAre(check, c, 2);
+    }
+
     private static void wrongColumns(Check check) {
         ColourCharts c = about(4, 4);
         c.grid(3, 1);
@@ -125,6 +140,12 @@ public final class PatchEdgesTest {
         patchesAre(check, c, 3);
     }
 
+    private static void readsOne(Check check, ColourCharts c, int patch, int patches, String cell) {
+        for (int other = 0; other < patches; other++) {
+            check.due(cell + " is in patch " + other, c.read(other, 0) < 255, other == patch);
+        }
+    }
+
     /** One dark red after the other tells by the reads which patch it is in: so many in each, from the first on. */
     private static void columnsHave(Check check, int... cells) {
         int wide = 0;
@@ -137,7 +158,7 @@ public final class PatchEdgesTest {
         for (int patch = 0; patch < cells.length; patch++) {
             for (int i = 0; i < cells[patch]; i++) {
                 c.pixel(x, 2, 0, 0);
-                check.due("column " + x + " of " + wide + " is in patch " + patch, c.read(patch, 0) < 255, true);
+                readsOne(check, c, patch, cells.length, "column " + x + " of " + wide);
                 c.pixel(x, 2, 0, 255);
                 x++;
             }
@@ -167,7 +188,7 @@ public final class PatchEdgesTest {
         for (int patch = 0; patch < cells.length; patch++) {
             for (int i = 0; i < cells[patch]; i++) {
                 c.pixel(2, y, 0, 0);
-                check.due("row " + y + " of " + high + " is in patch " + patch, c.read(patch, 0) < 255, true);
+                readsOne(check, c, patch, cells.length, "row " + y + " of " + high);
                 c.pixel(2, y, 0, 255);
                 y++;
             }

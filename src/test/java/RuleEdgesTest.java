@@ -42,10 +42,13 @@ public final class RuleEdgesTest {
         edges.edge(18, "the greatest difference of all patches with targets in the grid", "0", RuleEdgesTest::noDifference);
         edges.edge(18, "the greatest difference of all patches with targets in the grid", "the greatest there is",
             RuleEdgesTest::utmostDifference);
+        edges.edge(18, "the greatest difference of all patches with targets in the grid", "of the first and the last",
+            RuleEdgesTest::outerDifferences);
         edges.edge(18, "the greatest difference of all patches with targets in the grid", "beyond it",
             RuleEdgesTest::differenceBeyond);
         edges.edge(18, "the greatest noise, rounded down", "just at it", RuleEdgesTest::noiseAtLimit);
         edges.edge(18, "the greatest noise, rounded down", "with a rest", RuleEdgesTest::noiseRoundedDown);
+        edges.edge(18, "the greatest noise, rounded down", "of the first and the last patch", RuleEdgesTest::outerNoise);
         edges.edge(18, "the greatest noise, rounded down", "the greatest there is", RuleEdgesTest::utmostNoise);
         edges.edge(18, "how many patches of the grid have no target", "none and all", RuleEdgesTest::missingExtremes);
         edges.edge(18, "how many patches of the grid have no target", "just at it", RuleEdgesTest::missingAtLimit);
@@ -316,6 +319,17 @@ public final class RuleEdgesTest {
         measured(check, fitted(), 'd', 0);
     }
 
+    private static void outerDifferences(Check check) {
+        ColourCharts first = fitted();
+        first.target(15, 255, 255, 254);
+        first.target(0, 50, 50, 52);
+        measured(check, first, 'd', 12);
+        ColourCharts last = fitted();
+        last.target(0, 50, 50, 51);
+        last.target(15, 255, 255, 253);
+        measured(check, last, 'd', 12);
+    }
+
     private static ColourCharts withUtmostDifference() {
         ColourCharts c = fitted();
         c.target(15, 0, 0, 0);
@@ -361,6 +375,29 @@ public final class RuleEdgesTest {
         measured(check, noisy(248), 'n', 12);
         measured(check, noisy(254), 'n', 0);
         above(check, noisy(250), 'n', 5);
+        measured(check, noisyQuarter(253), 'n', 0);
+        measured(check, noisyQuarter(252), 'n', 1);
+        measured(check, noisyQuarter(251), 'n', 3);
+        measured(check, noisyQuarter(249), 'n', 6);
+    }
+
+    /** One patch of four cells, three greens of 255 and this one; the others are without noise. */
+    private static ColourCharts noisyQuarter(int green) {
+        ColourCharts c = fitted();
+        Scenes.patch(c, 0, 255, 255, 255);
+        Scenes.patch(c, 1, 255, 255, 255);
+        c.grid(2, 2);
+        c.pixel(4, 4, 1, green);
+        return c;
+    }
+
+    private static void outerNoise(Check check) {
+        ColourCharts first = noisy(251);
+        first.pixel(1, 2, 1, 60);
+        measured(check, first, 'n', 25);
+        ColourCharts last = noisy(245);
+        last.pixel(1, 2, 1, 52);
+        measured(check, last, 'n', 25);
     }
 
     private static void utmostNoise(Check check) {
