@@ -1,68 +1,111 @@
+import java.io.IOException;
+import java.io.UncheckedIOException;
 import java.lang.reflect.Constructor;
 import java.lang.reflect.Field;
 import java.lang.reflect.Method;
 import java.lang.reflect.Modifier;
-import java.util.Arrays;
+import java.nio.file.Files;
+import java.nio.file.Path;
+import java.util.StringJoiner;
 import java.util.TreeSet;
 
-/** The public face is the document's, and nothing else of the class can be seen from outside (rule 1 of LANGUAGE.md). */
+/**
+ * The public face is the document's, as it stands under "The public face" of DOC.md, with what each method is said to
+ * throw; and nothing else of the class can be seen from outside (rule 1 of LANGUAGE.md).
+ */
 public final class FaceTest {
     private static final Check CHECK = new Check();
 
-    private static final String[] DUE = {
-        "boolean find()", "int box(int)", "int colour(int, int)", "int count(int)", "int day(int, int)",
-        "int difference(int)", "int fit()", "int light(int, int, int)", "int lit(int, int, int)", "int neutral(int)",
-        "int pixel(int, int, int, int)", "int read(int, int)", "int reject()", "int rule()", "int turn(int)",
-        "int unit(int)", "long drift(int)", "long line(int, int)", "long noise(int, int)", "void grid(int, int)",
-        "void target(int, int, int, int)"};
-
-    public static void main(String[] args) {
-        CHECK.dueText("the class", Modifier.toString(ColourCharts.class.getModifiers()), "public final");
-        methods();
-        fieldsAndConstructors();
+    public static void main(String[] args) throws IllegalAccessException {
+        TreeSet<String> promised = promisedFace();
+        CHECK.due("members of the document's face", promised.size(), 24);
+        CHECK.dueText("the face", seenFace().toString(), promised.toString());
+        ownMembers(ColourCharts.class, publicNames());
         classesInside();
         CHECK.end("FaceTest");
     }
 
-    private static void methods() {
-        TreeSet<String> seen = new TreeSet<>();
-        TreeSet<String> publicNames = new TreeSet<>();
-        for (Method m : ColourCharts.class.getDeclaredMethods()) {
-            if (!Modifier.isPrivate(m.getModifiers()) && !m.isSynthetic()) {
-                seen.add(shown(m));
-                publicNames.add(m.getName());
-                CHECK.due(m.getName() + " is public", Modifier.isPublic(m.getModifiers()), true);
+    /** Without the parameters' names, as a class file need not tell them. */
+    private static TreeSet<String> promisedFace() {
+        String document = read("../shared/DOC.md");
+        int start = document.indexOf("```java", document.indexOf("## The public face"));
+        String face = document.substring(start, document.indexOf("```", start + 3));
+        TreeSet<String> promised = new TreeSet<>();
+        for (String line : face.split("\n")) {
+            String member = line.trim();
+            if (member.startsWith("public ")) {
+                member = member.replaceAll("int \\w+([,)])", "int$1");
+                promised.add(member.replaceAll(" *[;{]$", ""));
             }
         }
-        CHECK.dueText("methods", seen.toString(), new TreeSet<>(Arrays.asList(DUE)).toString());
+        return promised;
+    }
+
+    private static TreeSet<String> seenFace() throws IllegalAccessException {
+        TreeSet<String> seen = new TreeSet<>();
+        seen.add(Modifier.toString(ColourCharts.class.getModifiers()) + " class " + ColourCharts.class.getName());
         for (Method m : ColourCharts.class.getDeclaredMethods()) {
-            if (Modifier.isPrivate(m.getModifiers())) {
+            if (!Modifier.isPrivate(m.getModifiers()) && !m.isSynthetic()) {
+                String head = Modifier.toString(m.getModifiers()) + " " + m.getReturnType() + " " + m.getName();
+                seen.add(head + listed("(", m.getParameterTypes(), ")") + listed(" throws ", m.getExceptionTypes(), ""));
+            }
+        }
+        for (Constructor<?> made : ColourCharts.class.getDeclaredConstructors()) {
+            String head = Modifier.toString(made.getModifiers()) + " " + made.getName();
+            seen.add(head + listed("(", made.getParameterTypes(), ")") + listed(" throws ", made.getExceptionTypes(), ""));
+        }
+        for (Field f : ColourCharts.class.getDeclaredFields()) {
+            if (!Modifier.isPrivate(f.getModifiers())) {
+                String head = Modifier.toString(f.getModifiers()) + " " + f.getType() + " " + f.getName();
+                seen.add(head + " = " + f.get(null));
+            }
+        }
+        return seen;
+    }
+
+    /** Empty where there is neither a type nor a closing sign. */
+    private static String listed(String before, Class<?>[] types, String after) {
+        StringJoiner list = new StringJoiner(", ", before, after);
+        for (Class<?> type : types) {
+            list.add(type.getSimpleName());
+        }
+        return types.length == 0 && after.isEmpty() ? "" : list.toString();
+    }
+
+    private static String read(String file) {
+        try {
+            return Files.readString(Path.of(file));
+        } catch (IOException e) {
+            throw new UncheckedIOException(e);
+        }
+    }
+
+    private static void ownMembers(Class<?> within, TreeSet<String> publicNames) {
+        for (Method m : within.getDeclaredMethods()) {
+            if (!Modifier.isPublic(m.getModifiers())) {
                 CHECK.due(m.getName() + " bears a public one's name", publicNames.contains(m.getName()), false);
             }
         }
-    }
-
-    private static String shown(Method m) {
-        String parameters = Arrays.toString(m.getParameterTypes()).replace('[', '(').replace(']', ')');
-        return m.getReturnType() + " " + m.getName() + parameters;
-    }
-
-    private static void fieldsAndConstructors() {
-        for (Field f : ColourCharts.class.getDeclaredFields()) {
-            boolean none = f.getName().equals("NONE");
-            CHECK.due("field " + f.getName() + " is private", Modifier.isPrivate(f.getModifiers()), !none);
+        for (Field f : within.getDeclaredFields()) {
             if (Modifier.isStatic(f.getModifiers())) {
                 CHECK.due("static field " + f.getName() + " is final", Modifier.isFinal(f.getModifiers()), true);
             }
         }
-        CHECK.due("constructors", ColourCharts.class.getDeclaredConstructors().length, 1);
-        for (Constructor<?> made : ColourCharts.class.getDeclaredConstructors()) {
-            CHECK.dueText("constructor", made.toString(), "public ColourCharts(int,int)");
+    }
+
+    private static TreeSet<String> publicNames() {
+        TreeSet<String> names = new TreeSet<>();
+        for (Method m : ColourCharts.class.getDeclaredMethods()) {
+            if (Modifier.isPublic(m.getModifiers())) {
+                names.add(m.getName());
+            }
         }
+        return names;
     }
 
     private static void classesInside() {
         for (Class<?> inside : ColourCharts.class.getDeclaredClasses()) {
+            ownMembers(inside, publicNames());
             int modifiers = inside.getModifiers();
             CHECK.due(inside + " is static", Modifier.isStatic(modifiers), true);
             CHECK.due(inside + " is seen outside", Modifier.isPublic(modifiers) || Modifier.isProtected(modifiers), false);
